@@ -52,8 +52,8 @@ public final class LineCalls {
     private final Line trial = new Line();
     private final Line kept = new Line();
     private boolean hasImage = false;
-    private final Tape tape = new Tape();
-    private final TextReader reader = new TextReader(tape);
+    private final TextReader reader = new TextReader();
+    private final Tape tape = reader.tape;
     private final Sheet[] sheets = new Sheet[SHEETS];
     private final int[] found = new int[FINDINGS];
 
@@ -1158,11 +1158,7 @@ public final class LineCalls {
 
         private static final int USUAL_TALL = 50;
 
-        private final Tape tape;
-
-        TextReader(Tape itsTape) {
-            tape = itsTape;
-        }
+        final Tape tape = new Tape();
 
         /**
          * How many ITEMS, or -1 less the FAULT. Each part below stops at the TOKEN that can't stand there,

@@ -119,6 +119,10 @@ public final class PromiseTests {
         due(x.stand(6, -1), -1);
         due(x.of(1, 7), -1);
         due(x.stand(0, 0), -1);
+        due(x.stand(1, 0), -1);
+        due(x.place(0, 0), -1);
+        due(x.stand(0, 0), -1);
+        due(x.place(1, 0), -1);
         due(x.stand(-1, 0), BEYOND);
         due(x.stand(7, 0), BEYOND);
         due(x.stand(0, 2), BEYOND);
@@ -394,6 +398,7 @@ public final class PromiseTests {
         due(x.go(1), 2);
         due(x.go(1), 7);
         due(x.of(0, 2), 24);
+        due(x.of(0, 5), 0);
 
         promise(14);
         x = lone(JUMPER, 50, 2);
@@ -418,6 +423,10 @@ public final class PromiseTests {
         x.set(2, 3);
         due(x.now(4), 6);
         due(x.now(6), 64);
+        x = lone(JUMPER, 50, 0);
+        x.call(0, 1);
+        due(x.now(5), 1);
+        due(x.now(6), 3);
         due(x.now(7), BEYOND);
         due(x.now(-1), BEYOND);
     }
@@ -475,6 +484,16 @@ public final class PromiseTests {
         due(x.known(), 2);
         due(new LineCalls().known(), 0);
         due(flanker.known(), NONE);
+        // Each sixth THROW is to it; from the 17th such on HIGH 11 is not above their FORCE: THROW 100 if it is the fourth.
+        LineCalls sixth = lone(JUMPER, 12, 3);
+        sixth.theirs(3, 1, 0);
+        for (int i = 0; i < 6; i++) {
+            sixth.call(i, i == 3 ? 3 : 0);
+        }
+        due(sixth.known(), 100);
+        sixth.call(3, 0);
+        sixth.call(4, 3);
+        due(sixth.known(), NONE);
         due(x.now(0), 0);
     }
 
@@ -537,6 +556,24 @@ public final class PromiseTests {
         due(x.standFor(0, 6), 5);
         due(x.place(4, 0), 0);
         due(x.place(5, 0), 1);
+        // Likewise from the front: who was in 5 gains nothing there, but keeps it from being empty.
+        x = new LineCalls();
+        x.jumper(JUMPER, 99);
+        x.jumper(PROP, 99);
+        x.stand(0, 0);
+        x.stand(5, 1);
+        x.call(1, 0);
+        x.call(2, 5);
+        x.theirs(0, 1, 20);
+        x.theirs(5, 1, 60);
+        due(x.standFor(0, 3), 5);
+        // 7 metres in 5, but then 3 less twice in front; else nothing in 5, and twice 2 in front.
+        x.change(0, 0, LOCK);
+        x.change(1, 1, 10);
+        x.call(0, 5);
+        x.call(2, 0);
+        x.theirs(0, 1, 40);
+        due(x.standFor(0, 3), 0);
         // From nowhere: who stood there comes to none.
         x = new LineCalls();
         x.jumper(LOCK, 99);
@@ -575,6 +612,11 @@ public final class PromiseTests {
         due(x.tallFor(0, 9999, 40), NONE);
         x.change(0, 3, 9998);
         due(x.tallFor(0, 9999, 1), 41);
+        x.theirs(3, 1, 98);
+        due(x.tallFor(0, 9999, 1), 99);
+        x.theirs(3, 1, 99);
+        due(x.tallFor(0, 9999, 1), NONE);
+        x.theirs(3, 1, 40);
         due(x.of(0, 1), 38);
         due(x.tallFor(0, 10000, 0), BEYOND);
         due(x.tallFor(0, -1, 0), BEYOND);
@@ -636,6 +678,12 @@ public final class PromiseTests {
         due(x.tall(2, 0), 41);
         numbers(x, 2, 32, 0, 5, 10);
         due(x.tall(2, 0), 45);
+        x.theirs(5, 1, 98);
+        numbers(x, 2, 32, 0, 5);
+        due(x.tall(2, 0), 99);
+        due(x.fits(2, 0), 1);
+        x.theirs(5, 1, 99);
+        due(x.tall(2, 0), NONE);
         numbers(x, 2, 32, -1, 0);
         due(x.tall(2, 0), 0);
         due(x.tall(2, 1), BEYOND);
@@ -801,6 +849,11 @@ public final class PromiseTests {
         due(text(x, "wet"), -1 - 3);
         due(text(x, "wetter 1"), -1);
         due(text(x, "wet wind"), -1 - 4);
+        due(text(x, "wetz 1"), -1);
+        due(text(x, "wet{1"), -1 - 3);
+        due(text(x, "wet`1"), -1 - 3);
+        due(text(x, "wet 1:"), -1 - 5);
+        due(text(x, "wet 1/"), -1 - 5);
         due(text(x, "Wet 1"), -1);
         due(text(x, "wet 1\t"), -1 - 5);
         due(text(x, "wet -1"), -1 - 4);
@@ -891,10 +944,12 @@ public final class PromiseTests {
         due(x.sheet(0, 24, -1), BEYOND);
         due(x.sheet(4, 8, -1), BEYOND);
         due(x.sheet(-1, 8, 1), BEYOND);
-        due(x.write(0, 39, 5), 1);
+        due(x.write(0, 0, 5), 1);
+        due(x.write(0, 5, 5), 1);
         due(x.sheet(0, 8, 2), 2);
         due(x.sheet(0, 8, 40), 40);
         due(x.load(0), 6);
+        due(x.listed(0), 0);
         due(x.listed(5), 0);
 
         promise(38);
