@@ -166,11 +166,6 @@ public final class ModelTest {
         int[] bits = new int[4];
         int[] status = new int[7];
 
-        long answer(String name, int[] a) {
-            long got = dispatch(name, a);
-            return got;
-        }
-
         private long find(int f) {
             status[-1000001 - f]++;
             return f;
@@ -234,7 +229,7 @@ public final class ModelTest {
             return new int[] {kind, m.tall, m.tired, m.won, m.lost, v.high(m, m.kind), v.tires(m.kind), v.whereIs(j)}[what];
         }
 
-        private long dispatch(String name, int[] a) {
+        long answer(String name, int[] a) {
             switch (name) {
                 case "stand": case "place": case "theirs": case "set": case "call": case "listed": case "says":
                 case "jumper": case "of": case "change": case "gains": return lineActs(name, a);
@@ -492,10 +487,8 @@ public final class ModelTest {
                 case "as": {
                     if (out(a[0], 0, 9) || out(a[1], 0, 6)) return find(BEYOND);
                     if (w.spots[a[0]] == null) return find(MISSING);
-                    String chain = "";
-                    String[] lines = {"0", "01", "02", "023", "0234", "05", "016"};
-                    chain = lines[manValue(w, w.spots[a[0]], 0)];
-                    return chain.contains("" + a[1]) ? w.spots[a[0]] : find(KIND);
+                    String[] chains = {"0", "01", "02", "023", "0234", "05", "016"};
+                    return chains[manValue(w, w.spots[a[0]], 0)].contains("" + a[1]) ? w.spots[a[0]] : find(KIND);
                 }
                 case "image":
                     image = w.twin();
