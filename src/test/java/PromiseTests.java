@@ -4,6 +4,7 @@ public final class PromiseTests {
     private static final int FULL = -1000002;
     private static final int KIND = -1000003;
     private static final int NONE = -1000004;
+    private static final int STATE = -1000005;
     private static final int MISSING = -1000006;
     private static final int SIZE = -1000007;
     private static final int JUMPER = 0, PROP = 1, LOCK = 2, TOWER = 3, GIANT = 4, ROOKIE = 5, FLANKER = 6;
@@ -391,6 +392,21 @@ public final class PromiseTests {
             due(x.now(4), i % 6);
             x.go(1);
         }
+        // The document promises nothing behind call 512, but STATE can be seen only there.
+        x = new LineCalls();
+        for (int i = 0; i < 1666; i++) {
+            x.go(60);
+        }
+        due(x.go(40), STATE);
+        due(x.mix(20), 0);
+        due(x.go(20), STATE);
+        due(x.mix(20), STATE);
+        due(x.go(19), 0);
+        due(x.mix(1), STATE);
+        due(x.go(1), STATE);
+        due(x.now(0), 99999);
+        due(x.metres(3), 0);
+        due(x.status(4), 5);
         // A ROOKIE is 0 HIGH at each odd THROW, and tires by WET too.
         x = lone(ROOKIE, 99, 5);
         x.set(1, 3);
