@@ -401,7 +401,11 @@ public final class PromiseTests {
         due(x.mix(20), 0);
         due(x.go(20), STATE);
         due(x.mix(20), STATE);
+        x.image();
         due(x.go(19), 0);
+        due(x.now(0), 99999);
+        due(x.undo(), 99980);
+        due(x.mix(19), 0);
         due(x.mix(1), STATE);
         due(x.go(1), STATE);
         due(x.now(0), 99999);
