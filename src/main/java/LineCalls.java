@@ -788,15 +788,14 @@ public final class LineCalls {
             z = other.z;
         }
 
-        /** A new JUMPER in no PLACE; the caller has seen that there is room for it. */
+        /**
+         * A new JUMPER in no PLACE; the caller has seen that there is room for it. Its TIRED, WON and LOST are 0
+         * already: nothing is written behind the JUMPERS, and an image is taken and undone with its whole rows.
+         */
         int join(int itsKind, int itsTall) {
             int jumper = jumpers;
             kind[jumper] = itsKind;
             tall[jumper] = itsTall;
-            // An undone JUMPER may have left its numbers in these rows.
-            tired[jumper] = 0;
-            won[jumper] = 0;
-            lost[jumper] = 0;
             jumpers++;
             return jumper;
         }

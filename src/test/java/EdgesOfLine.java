@@ -100,6 +100,12 @@ public final class EdgesOfLine {
         c.changes("out of its PLACE into an empty one", States.BUSY, x -> x.stand(4, 4), -1,
             "place 4 who=4", "told: place 4 who=4", "place 6 who=-1", "told: place 6 who=-1", "jumper 4 place=4",
             "now 5=50");
+        c.changes("out of the front", States.CROWD.andThen(x -> x.stand(5, -1)), x -> x.stand(5, 0), -1,
+            "place 5 who=0", "told: place 5 who=0", "place 0 who=-1", "told: place 0 who=-1", "jumper 0 place=5",
+            "now 5=124");
+        c.changes("out of the rear", States.CROWD.andThen(x -> x.stand(1, -1)), x -> x.stand(1, 6), -1,
+            "place 1 who=6", "told: place 1 who=6", "place 6 who=-1", "told: place 6 who=-1", "jumper 6 place=1",
+            "now 5=63");
         c.changes("where another stands: that one comes to none", States.BUSY, x -> x.stand(1, 4), 0,
             "place 1 who=4", "told: place 1 who=4", "place 6 who=-1", "told: place 6 who=-1", "jumper 4 place=1",
             "jumper 0 place=-1", "now 5=34");

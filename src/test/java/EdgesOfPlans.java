@@ -113,17 +113,18 @@ public final class EdgesOfPlans {
     }
 
     private static void standForOthers() {
-        // Only the first one wins in 6, for 13; the second wins in 4, for 9. The first in 4: 0 and 9.
-        c.leaves("who stands there comes to where it stood", x -> {
-            x.jumper(Cases.FLANKER, 99);
-            x.jumper(Cases.FLANKER, 0);
-            x.stand(4, 0);
-            x.stand(6, 1);
-            x.theirs(6, 1, 60);
-            x.theirs(4, 1, 20);
-            x.call(0, 6);
-            x.call(1, 4);
-        }, x -> x.standFor(0, 2), 6);
+        for (int p : new int[] {0, 4}) {
+            // In 6 the first wins 13, and the second thrice where that stood. The first in 5: 11. Both as they are: 0 and 22.
+            c.leaves("from PLACE " + p + ": who stands there comes to where it stood", x -> {
+                x.jumper(Cases.FLANKER, 99);
+                x.jumper(Cases.LOCK, 30);
+                x.stand(p, 0);
+                x.stand(6, 1);
+                x.theirs(6, 1, 60);
+                x.theirs(p, 1, 20);
+                calls(6, p, p, p, 5).accept(x);
+            }, x -> x.standFor(0, 5), 6);
+        }
         // In 5 it would send the LOCK away (5 METRES in all), in 4 it wins 4 and the LOCK 7.
         c.leaves("who stands there comes to none, if it stood in none", x -> {
             x.jumper(Cases.LOCK, 99);

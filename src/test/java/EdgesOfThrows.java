@@ -32,6 +32,13 @@ public final class EdgesOfThrows {
         c.ends("n", States.sure(0), (x, v) -> x.go(v), 1, 1, 60, 60);
         c.beyond("n, when all has begun,", States.BUSY, (x, v) -> x.go(v), 0, 61);
         c.refused("n -1 is refused", States.BUSY, x -> x.go(-1), Cases.BEYOND);
+        c.test("the 512th call, the last of which the document speaks", () -> {
+            LineCalls x = Cases.made(States.sure(0));
+            for (int call = 10; call < 512; call++) {
+                x.go(60);
+            }
+            c.due(x.go(60), 503 * 60);
+        });
         c.answers("60 THROWS are 60", x -> x.go(60), x -> x.now(0), 60);
         c.test("60 THROWS at once are as 60 one by one", () -> {
             LineCalls x = Cases.made(States.BUSY);
