@@ -441,7 +441,11 @@ public final class LineCalls {
         }
         int all = MOST_CALL + 1;
         // Powers of a fraction in lowest terms are in lowest terms themselves.
-        int part = (what == 0 ? saying : all) / commonDivisor(saying, all);
+        int part = what == 0 ? saying : all;
+        int divisor = commonDivisor(saying, all);
+        if (divisor > 1) {
+            part /= divisor;
+        }
         long power = 1;
         for (int i = 0; i < n; i++) {
             power *= part;
@@ -704,7 +708,7 @@ public final class LineCalls {
         }
     }
 
-    /** The greatest number by which both can be divided; at least 1, since b is above 0. */
+    /** The greatest number by which both can be divided. */
     private static int commonDivisor(int a, int b) {
         int greater = b;
         int less = a;

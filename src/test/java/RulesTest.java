@@ -105,6 +105,8 @@ public final class RulesTest {
         check("no method reference", !code.contains("::"));
         check("no annotation", !code.contains("@"));
         check("no static block", !Pattern.compile("\\bstatic\\s*\\{").matcher(code).find());
+        divisors(code);
+        lengths(code);
         Matcher made = Pattern.compile("\\bnew\\s+(\\w+)").matcher(code);
         while (made.find()) {
             check("made: " + made.group(1), "int byte Line Tape TextReader Sheet".contains(made.group(1)));
@@ -113,6 +115,33 @@ public final class RulesTest {
         while (library.find()) {
             String used = library.group(1) + "." + library.group(2);
             check("library: " + used, "System.arraycopy Math.max Math.min Integer.bitCount".contains(used));
+        }
+    }
+
+    /** A divisor is a number, a constant, or a name that is looked at (less != 0, divisor > 1) before it divides. */
+    private static void divisors(String code) {
+        Matcher divided = Pattern.compile("[/%]=?\\s*([\\w.]+|\\()\\s*(\\()?").matcher(code);
+        while (divided.find()) {
+            String divisor = divided.group(1);
+            boolean plain = divisor.matches("[1-9][0-9]*|[A-Z][A-Z_]*");
+            boolean lookedAt = divisor.matches("[a-z]\\w*") && divided.group(2) == null
+                && Pattern.compile("\\b" + divisor + " (!= 0|> [0-9])").matcher(code.substring(0, divided.start())).find();
+            check("a divisor that is looked at: " + divided.group(), plain || lookedAt);
+        }
+    }
+
+    /** Methods stay short: some sixty lines. A method begins and ends in the same column. */
+    private static void lengths(String code) {
+        String[] lines = code.split("\n");
+        for (int i = 0; i < lines.length; i++) {
+            Matcher head = Pattern.compile("^( {4}| {8})[a-z].*\\b(\\w+)\\([^()]*\\) \\{$").matcher(lines[i]);
+            if (head.find() && !head.group(2).matches("if|for|while|switch")) {
+                int last = i;
+                while (last < lines.length && !lines[last].equals(head.group(1) + "}")) {
+                    last++;
+                }
+                check(head.group(2) + " is short", last - i < 60);
+            }
         }
     }
 
